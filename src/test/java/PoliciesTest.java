@@ -1,0 +1,193 @@
+import java.util.ArrayList;
+import java.util.Comparator;
+import java.util.List;
+
+/** The five policies of the description, which promises 11, 14, 15 and 23 use. */
+public final class PoliciesTest {
+    private static final Check check = new Check("PoliciesTest");
+
+    public static void main(String[] args) {
+        roundRobin();
+        roundRobinSkips();
+        weighted();
+        weightedSkips();
+        weightedWithSlowStart();
+        leastConnections();
+        leastConnectionsWithSlowStart();
+        hash();
+        hashSkips();
+        hashWithEqualPosition();
+        twoChoices();
+        check.end();
+    }
+
+    private static void roundRobin() {
+        LoadBalancer x = Scenes.withServers(3);
+        check.due("ROUND_ROBIN", Scenes.placeMany(x, 7), "0120120");
+        x.addServer(1, 20);
+        check.due("ROUND_ROBIN with one more", Scenes.placeMany(x, 4), "1230");
+    }
+
+    private static void roundRobinSkips() {
+        LoadBalancer x = Scenes.withServers(4);
+        x.setDraining(0, true);
+        x.setDraining(2, true);
+        check.due("ROUND_ROBIN over 1 and 3", Scenes.placeMany(x, 4), "1313");
+        x.setDraining(3, true);
+        x.setDraining(2, false);
+        check.due("ROUND_ROBIN goes on behind the last one", Scenes.placeMany(x, 3), "121");
+        x.setDraining(1, true);
+        x.setDraining(2, true);
+        check.dueState("ROUND_ROBIN without any", () -> x.open(0));
+        x.setDraining(1, false);
+        x.setDraining(2, false);
+        check.due("ROUND_ROBIN after a rejection", Scenes.placeMany(x, 1), "2");
+    }
+
+    private static void weighted() {
+        LoadBalancer x = new LoadBalancer();
+        x.addServer(5, 20);
+        x.addServer(1, 20);
+        x.addServer(1, 20);
+        x.setPolicy(LoadBalancer.WEIGHTED);
+        check.due("WEIGHTED 5 1 1", Scenes.placeMany(x, 14), "00102000010200");
+    }
+
+    private static void weightedSkips() {
+        LoadBalancer x = new LoadBalancer();
+        x.addServer(3, 20);
+        x.addServer(2, 20);
+        x.setPolicy(LoadBalancer.WEIGHTED);
+        // Credits 3 2 -> server 0 -> -2 2.
+        check.due("WEIGHTED 3 2", Scenes.placeMany(x, 1), "0");
+        x.setDraining(1, true);
+        // Only server 0 counts: -2 + 3 - 3 = -2, and server 1 keeps 2.
+        check.due("WEIGHTED, one alone", Scenes.placeMany(x, 3), "000");
+        x.setDraining(1, false);
+        // 1 4 -> server 1 -> 1 -1; 4 1 -> server 0 -> -1 1; 2 3 -> server 1.
+        check.due("WEIGHTED, the credits stayed", Scenes.placeMany(x, 3), "101");
+    }
+
+    private static void weightedWithSlowStart() {
+        LoadBalancer x = new LoadBalancer();
+        x.addServer(10, 20);
+        x.addServer(2, 20);
+        x.setPolicy(LoadBalancer.WEIGHTED);
+        x.setSlowStart(10);
+        Scenes.recover(x, 0);
+        // Effective weights 1 and 2: 1 2 -> 1 -> 1 -1; 2 1 -> 0 -> -1 1; 0 3 -> 1 -> 0 0.
+        check.due("WEIGHTED in a slow start", Scenes.placeMany(x, 6), "101101");
+        x.tick(10);
+        check.due("WEIGHTED after it", Scenes.placeMany(x, 6), "000100");
+    }
+
+    private static void leastConnections() {
+        LoadBalancer x = new LoadBalancer();
+        x.addServer(3, 20);
+        x.addServer(2, 20);
+        x.addServer(1, 2);
+        x.setPolicy(LoadBalancer.LEAST_CONNECTIONS);
+        // 0/3 0/2 0/1; 1/3 0/2 0/1; 1/3 1/2 0/1; 1/3 1/2 1/1; 2/3 1/2 1/1; 2/3 2/2 1/1; 3/3 2/2 1/1 (a tie).
+        check.due("LEAST_CONNECTIONS 3 2 1", Scenes.placeMany(x, 7), "0120100");
+        x.close(2, true);
+        check.due("LEAST_CONNECTIONS after a close", Scenes.placeMany(x, 1), "2");
+        x.setDraining(0, true);
+        // 2/2 against 1/1: the smaller number; then 1/1 against 3/2: server 2, which is full then.
+        check.due("LEAST_CONNECTIONS, one draining", Scenes.placeMany(x, 4), "1211");
+    }
+
+    private static void leastConnectionsWithSlowStart() {
+        LoadBalancer x = new LoadBalancer();
+        x.addServer(10, 20);
+        x.addServer(3, 20);
+        x.setPolicy(LoadBalancer.LEAST_CONNECTIONS);
+        x.setSlowStart(10);
+        Scenes.recover(x, 0);
+        // Effective weights 1 and 3: 0/1 0/3; 1/1 0/3; 1/1 1/3; 1/1 2/3; 1/1 3/3 (a tie).
+        check.due("LEAST_CONNECTIONS in a slow start", Scenes.placeMany(x, 5), "01110");
+    }
+
+    private static void hash() {
+        int[] weights = {5, 1, 10, 3};
+        LoadBalancer x = new LoadBalancer();
+        for (int weight : weights) {
+            x.addServer(weight, 20);
+        }
+        x.setPolicy(LoadBalancer.HASH);
+        List<long[]> ring = ring(weights);
+        for (int i = 0; i < 200; i++) {
+            int client = i < 100 ? i - 50 : i * 1234567891;
+            check.due("HASH, owner(" + client + ")", x.owner(client), walk(ring, client, -1));
+            check.due("HASH, preview(" + client + ")", x.preview(client), walk(ring, client, -1));
+        }
+    }
+
+    private static void hashSkips() {
+        int[] weights = {2, 4, 6};
+        LoadBalancer x = new LoadBalancer();
+        for (int weight : weights) {
+            x.addServer(weight, 20);
+        }
+        x.setPolicy(LoadBalancer.HASH);
+        x.setDraining(2, true);
+        List<long[]> ring = ring(weights);
+        for (int client = 0; client < 100; client++) {
+            check.due("HASH without 2, preview(" + client + ")", x.preview(client), walk(ring, client, 2));
+            check.due("HASH without 2, owner(" + client + ")", x.owner(client), walk(ring, client, -1));
+        }
+    }
+
+    /** A client with the number of a point has its very position, and the point is not smaller. */
+    private static void hashWithEqualPosition() {
+        LoadBalancer x = Scenes.withServers(10);
+        for (int server = 0; server < 10; server++) {
+            for (int k = 0; k < 4; k++) {
+                check.due("HASH, a client at a point", x.owner(1000 * server + k), server);
+            }
+        }
+    }
+
+    private static List<long[]> ring(int[] weights) {
+        List<long[]> points = new ArrayList<>();
+        for (int s = 0; s < weights.length; s++) {
+            for (int k = 0; k < 4 * weights[s]; k++) {
+                points.add(new long[] {Reference.position(1000 * s + k), s, k});
+            }
+        }
+        points.sort(Comparator.<long[]>comparingLong(p -> p[0]).thenComparingLong(p -> p[1]).thenComparingLong(p -> p[2]));
+        return points;
+    }
+
+    private static int walk(List<long[]> ring, int client, int without) {
+        int start = 0;
+        while (start < ring.size() && ring.get(start)[0] < Reference.position(client)) {
+            start++;
+        }
+        for (int i = 0; i < ring.size(); i++) {
+            long[] point = ring.get((start + i) % ring.size());
+            if (point[1] != without) {
+                return (int) point[1];
+            }
+        }
+        return LoadBalancer.NONE;
+    }
+
+    private static void twoChoices() {
+        LoadBalancer x = Scenes.withServers(5);
+        x.setPolicy(LoadBalancer.TWO_CHOICES);
+        x.setDraining(1, true);
+        int[] available = {0, 2, 3, 4};
+        int[] load = new int[5];
+        int seed = 1;
+        for (int i = 0; i < 40; i++) {
+            seed = seed * 1103515245 + 12345;
+            int first = available[(seed >>> 16) % 4];
+            seed = seed * 1103515245 + 12345;
+            int second = available[(seed >>> 16) % 4];
+            int due = load[second] < load[first] ? second : first;
+            load[due]++;
+            check.due("TWO_CHOICES, selection " + i, Scenes.place(x, i), due);
+        }
+        check.due("TWO_CHOICES, the seed", x.setSeed(5), seed);
+    }
+}
