@@ -360,8 +360,6 @@ public final class LoadBalancer {
 
         Server() {
             breaker = new Breaker();
-            weight = 1;
-            capacity = 1;
         }
 
         /** Makes everything new, since a restore may have taken away another server that stood here. */

@@ -12,6 +12,7 @@ public final class BreakersTest {
         otherConnections();
         oldConnectionsAfterwards();
         oneServerAlone();
+        goodOnesAfterBadOnes();
         check.end();
     }
 
@@ -145,6 +146,17 @@ public final class BreakersTest {
         check.due("22: three results of older connections", x.breaker(0), LoadBalancer.CLOSED);
         x.close(3, true);
         check.due("22: they count when they end while CLOSED", x.breaker(0), LoadBalancer.OPEN);
+    }
+
+    /** Bad results of the time before must not count with good ones of the time after. */
+    private static void goodOnesAfterBadOnes() {
+        LoadBalancer x = Scenes.withServers(1);
+        Scenes.tripBreaker(x);
+        x.tick(5);
+        for (int i = 0; i < 5; i++) {
+            Scenes.useOnce(x, true);
+            check.due("22: CLOSED with good results alone", x.breaker(0), LoadBalancer.CLOSED);
+        }
     }
 
     private static void oneServerAlone() {

@@ -1,3 +1,4 @@
+import java.math.BigInteger;
 import java.util.ArrayList;
 import java.util.Comparator;
 import java.util.List;
@@ -17,8 +18,27 @@ public final class PoliciesTest {
         hash();
         hashSkips();
         hashWithEqualPosition();
+        hashBesideThePoints();
+        hashInASlowStart();
         twoChoices();
+        tenServers();
         check.end();
+    }
+
+    private static void tenServers() {
+        for (int policy = 0; policy <= 4; policy++) {
+            LoadBalancer x = Scenes.withServers(10);
+            x.setPolicy(policy);
+            for (int i = 0; i < 200; i++) {
+                check.due("policy " + policy + " with 10 servers", x.open(i), i);
+            }
+            for (int server = 0; server < 10; server++) {
+                check.due("policy " + policy + ", every server is full", x.active(server), 20);
+            }
+            check.due("policy " + policy + ", active connections", x.count(1), 200);
+            check.dueState("policy " + policy + ", no room", () -> x.open(0));
+            check.due("policy " + policy + ", a tick", x.tick(1), 1);
+        }
     }
 
     private static void roundRobin() {
@@ -144,6 +164,52 @@ public final class PoliciesTest {
             for (int k = 0; k < 4; k++) {
                 check.due("HASH, a client at a point", x.owner(1000 * server + k), server);
             }
+        }
+    }
+
+    /** Clients one before, at and one behind each point, and at both ends of the positions. */
+    private static void hashBesideThePoints() {
+        int[] weights = {2, 10, 1, 7, 3, 5, 4, 6, 9, 8};
+        LoadBalancer x = new LoadBalancer();
+        for (int weight : weights) {
+            x.addServer(weight, 20);
+        }
+        List<long[]> ring = ring(weights);
+        List<Integer> positions = new ArrayList<>(List.of(0, -1, Integer.MAX_VALUE, Integer.MIN_VALUE));
+        for (long[] point : ring) {
+            positions.add((int) point[0] - 1);
+            positions.add((int) point[0]);
+            positions.add((int) point[0] + 1);
+        }
+        for (int position : positions) {
+            int client = clientAt(position);
+            check.due("HASH, the client's position", Reference.position(client), position & 0xFFFFFFFFL);
+            check.due("HASH, owner at " + position, x.owner(client), walk(ring, client, -1));
+        }
+    }
+
+    /** The client whose position is the given one: mix, backwards. */
+    private static int clientAt(int position) {
+        int inverse = BigInteger.valueOf(73244475).modInverse(BigInteger.ONE.shiftLeft(32)).intValue();
+        int x = position;
+        x ^= x >>> 16;
+        x *= inverse;
+        x ^= x >>> 16;
+        x *= inverse;
+        x ^= x >>> 16;
+        return x;
+    }
+
+    private static void hashInASlowStart() {
+        int[] weights = {10, 10};
+        LoadBalancer x = new LoadBalancer();
+        x.addServer(10, 20);
+        x.addServer(10, 20);
+        x.setPolicy(LoadBalancer.HASH);
+        x.setSlowStart(50);
+        Scenes.recover(x, 0);
+        for (int client = 0; client < 100; client++) {
+            check.due("HASH in a slow start, the points stay", x.preview(client), walk(ring(weights), client, -1));
         }
     }
 

@@ -9,6 +9,11 @@ public final class SavingTest {
         saveOverwrites();
         restoresWhatNoQueryTells();
         restoresSettings();
+        restoresBreakers();
+        restoresServers();
+        restoresConnections();
+        restoresClients();
+        savesAtTheLimits();
         wrongSlots();
         check.end();
     }
@@ -164,6 +169,114 @@ public final class SavingTest {
         check.due("26: FALL, 3 of 4", x.report(0, false), true);
         check.due("26: FALL, 4 of 4", x.report(0, false), false);
         check.due("26: RISE, 1 of 1", x.report(0, true), true);
+    }
+
+    private static void restoresBreakers() {
+        LoadBalancer x = Scenes.withServers(1);
+        x.tick(10);
+        Scenes.tripBreaker(x);
+        x.tick(3);
+        x.save(0);
+        x.tick(2);
+        Scenes.useOnce(x, false);
+        x.tick(2);
+        x.restore(0);
+        x.tick(1);
+        check.due("26: OPEN for 4 ticks", x.breaker(0), LoadBalancer.OPEN);
+        x.tick(1);
+        check.due("26: OPEN since the time that was saved", x.breaker(0), LoadBalancer.HALF_OPEN);
+        x.save(0);
+        int trial = x.open(1);
+        x.save(1);
+        x.restore(0);
+        check.due("26: HALF_OPEN without a connection", x.isAvailable(0), true);
+        x.restore(1);
+        check.due("26: HALF_OPEN with its connection", x.isAvailable(0), false);
+        x.close(trial, true);
+        check.due("26: the connection that counts", x.breaker(0), LoadBalancer.CLOSED);
+    }
+
+    private static void restoresServers() {
+        LoadBalancer x = new LoadBalancer();
+        x.save(0);
+        x.addServer(10, 4);
+        x.setSlowStart(50);
+        Scenes.recover(x, 0);
+        x.open(1);
+        x.save(1);
+        x.tick(20);
+        Scenes.recover(x, 0);
+        x.restore(1);
+        x.tick(9);
+        check.due("26: healthy since the time that was saved", x.effectiveWeight(0), 2);
+        x.restore(0);
+        x.addServer(8, 2);
+        x.setSlowStart(50);
+        check.due("26: another server in its place", x.effectiveWeight(0), 8);
+        x.restore(1);
+        check.due("26: the capacity", x.utilization(0), 0.25);
+        check.due("26: it became healthy by checks", x.effectiveWeight(0), 1);
+    }
+
+    private static void restoresConnections() {
+        LoadBalancer x = Scenes.withServers(2);
+        x.save(0);
+        x.tick(4);
+        x.open(1);
+        x.open(1);
+        x.setDraining(0, true);
+        x.setDraining(1, true);
+        check.dueState("15: open", () -> x.open(1));
+        x.save(1);
+        x.restore(0);
+        check.due("26: no rejections", x.count(3), 0);
+        x.setDraining(0, true);
+        x.open(1);
+        x.open(1);
+        x.restore(1);
+        check.due("26: rejections", x.count(3), 1);
+        check.due("26: serverOf(0)", x.serverOf(0), 0);
+        check.due("26: serverOf(1)", x.serverOf(1), 1);
+        x.tick(3);
+        check.due("26: opened at its time", x.close(0, true), 3);
+        check.due("26: one ended", x.active(0), 0);
+    }
+
+    private static void restoresClients() {
+        LoadBalancer x = Scenes.withServers(3);
+        x.setSticky(5);
+        x.save(0);
+        x.tick(3);
+        x.open(7);
+        x.open(8);
+        x.save(1);
+        x.restore(0);
+        check.due("26: nobody is remembered", x.count(4), 0);
+        x.setDraining(0, true);
+        x.open(9);
+        x.open(7);
+        x.restore(1);
+        x.tick(4);
+        check.due("26: client 7 is sticky", x.preview(7), 0);
+        check.due("26: client 8 is sticky", x.preview(8), 1);
+        check.due("26: client 9 is not", x.preview(9), 2);
+        x.tick(1);
+        check.due("26: from the time that was saved", x.preview(7), 2);
+    }
+
+    /** With 10 servers, 40 remembered clients and 1000 connections, which takes more than 512 calls. */
+    private static void savesAtTheLimits() {
+        LoadBalancer x = Scenes.withServers(10);
+        x.setSticky(1);
+        for (int i = 0; i < 1000; i++) {
+            x.close(x.open(i), true);
+        }
+        String before = Scenes.picture(x);
+        x.save(0);
+        x.restore(0);
+        check.due("26: restore at all limits", Scenes.picture(x), before);
+        check.dueState("26: connection 999 is closed", () -> x.close(999, true));
+        check.dueState("26: no more connections", () -> x.open(1));
     }
 
     private static void wrongSlots() {

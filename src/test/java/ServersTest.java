@@ -8,6 +8,7 @@ public final class ServersTest {
         addServer();
         addServerWrong();
         addServerBeginsAnew();
+        addServerHasNoCredit();
         setWeight();
         setWeightKeeps();
         setWeightMovesPoints();
@@ -98,6 +99,22 @@ public final class ServersTest {
         check.due("2: no connections", x.active(0), 0);
         check.due("2: two checks may fail", x.report(0, false) && x.report(0, false), true);
         check.due("2: the third one may not", x.report(0, false), false);
+    }
+
+    private static void addServerHasNoCredit() {
+        LoadBalancer x = Scenes.withServers(1);
+        x.setPolicy(LoadBalancer.WEIGHTED);
+        x.save(0);
+        x.addServer(1, 20);
+        x.open(0);
+        x.restore(0);
+        x.addServer(1, 20);
+        check.due("2: a new server's credit is 0", Scenes.placeMany(x, 2), "01");
+        x.setPolicy(LoadBalancer.WEIGHTED);
+        x.addServer(1, 20);
+        x.setWeight(2, 2);
+        // Credits 1 1 2; they would be 2 2 2 if the older servers had begun with 1.
+        check.due("2: and so are the others' after setPolicy", Scenes.placeMany(x, 1), "2");
     }
 
     private static void setWeight() {

@@ -91,18 +91,28 @@ public final class StickyTest {
             x.open(100 - i);
             x.tick(1);
         }
+        sendNewClientsTo9(x);
         check.due("24: 40 clients", x.count(4), 40);
         check.due("15: client 100 again", Scenes.place(x, 100), 0);
-        x.open(-5);
+        check.due("15: a further client", Scenes.place(x, -5), 9);
         check.due("24: 40 clients still", x.count(4), 40);
-        // Client 99 was the oldest then; its server was 1, and the next by round robin is the one after 0.
-        x.setDraining(1, true);
-        x.setDraining(1, false);
+        check.due("14: client 99 is forgotten", x.preview(99), 9);
         check.due("14: client 100 is remembered", x.preview(100), 0);
         check.due("14: client 98 is remembered", x.preview(98), 2);
-        x.open(200);
-        check.due("14: client 98 is forgotten next", x.preview(98), x.preview(12345));
+        check.due("15: a further client", Scenes.place(x, 200), 9);
+        check.due("14: client 98 is forgotten next", x.preview(98), 9);
         check.due("14: client 97 is remembered", x.preview(97), 3);
+        check.due("15: client 99 comes anew", Scenes.place(x, 99), 9);
+        check.due("14: client 97 is forgotten then", x.preview(97), 9);
+        check.due("14: client 96 is remembered", x.preview(96), 4);
+    }
+
+    /** Of 40 connections that went round over 10 servers, ends those of server 9, so that it has the fewest. */
+    private static void sendNewClientsTo9(LoadBalancer x) {
+        x.setPolicy(LoadBalancer.LEAST_CONNECTIONS);
+        for (int connection = 9; connection < 40; connection += 10) {
+            x.close(connection, true);
+        }
     }
 
     private static void forgetsTheSmallestOfSeveral() {
@@ -114,20 +124,19 @@ public final class StickyTest {
         for (int i = 0; i < 37; i++) {
             x.open(10 + i);
         }
-        x.setPolicy(LoadBalancer.ROUND_ROBIN);
-        x.setDraining(0, true);
-        x.setDraining(1, true);
-        x.setDraining(2, true);
+        sendNewClientsTo9(x);
         x.open(1000);
-        x.setDraining(0, false);
-        x.setDraining(1, false);
-        x.setDraining(2, false);
-        check.due("14: client -2000000000 is forgotten", x.preview(-2000000000), 4);
+        check.due("14: client -2000000000 is forgotten", x.preview(-2000000000), 9);
         check.due("14: client 3 is remembered", x.preview(3), 0);
         check.due("14: client 2000000000 is remembered", x.preview(2000000000), 2);
-        x.open(1001);
-        check.due("14: client 3 is forgotten next", x.preview(3), 5);
-        check.due("14: the further client itself is remembered", x.preview(1000), 3);
+        x.open(-7);
+        check.due("14: client 3 is forgotten next", x.preview(3), 9);
+        check.due("14: client 10 is remembered", x.preview(10), 3);
+        x.setDraining(9, true);
+        x.open(-8);
+        x.setDraining(9, false);
+        check.due("14: client -7 is forgotten before client 10", x.preview(10), 3);
+        check.due("14: the further client itself is remembered", x.preview(-8), 0);
     }
 
     private static void aKnownClientForgetsNobody() {
