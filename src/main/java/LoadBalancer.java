@@ -267,21 +267,19 @@ public final class LoadBalancer {
         return seed * SEED_FACTOR + SEED_STEP;
     }
 
-    /** The circuit breaker of one server. */
     private static final class Breaker {
         int position;
         /** When it became OPEN; has a meaning only while it is OPEN. */
         int openSince;
         /** The connection that was accepted since it became HALF_OPEN, or NONE; has a meaning only while HALF_OPEN. */
         int trial;
-        /** How many results there are. */
-        int results;
+        int resultCount;
         /** The latest results, the newest in bit 0; a bit is 1 for a bad one. */
         int badBits;
 
         void shut() {
             position = CLOSED;
-            results = 0;
+            resultCount = 0;
             badBits = 0;
         }
 
@@ -317,10 +315,10 @@ public final class LoadBalancer {
 
         void addResult(boolean good, int time) {
             badBits = ((badBits << 1) | (good ? 0 : 1)) & ALL_RESULTS;
-            if (results < MAX_RESULTS) {
-                results++;
+            if (resultCount < MAX_RESULTS) {
+                resultCount++;
             }
-            if (results >= ENOUGH_RESULTS && 2 * Integer.bitCount(badBits) >= results) {
+            if (resultCount >= ENOUGH_RESULTS && 2 * Integer.bitCount(badBits) >= resultCount) {
                 trip(time);
             }
         }
@@ -337,7 +335,7 @@ public final class LoadBalancer {
             position = other.position;
             openSince = other.openSince;
             trial = other.trial;
-            results = other.results;
+            resultCount = other.resultCount;
             badBits = other.badBits;
         }
     }
