@@ -1,6 +1,4 @@
-import java.math.BigInteger;
 import java.util.ArrayList;
-import java.util.Comparator;
 import java.util.List;
 
 /** The five policies of the description, which promises 11, 14, 15 and 23 use. */
@@ -134,11 +132,11 @@ public final class PoliciesTest {
             x.addServer(weight, 20);
         }
         x.setPolicy(LoadBalancer.HASH);
-        List<long[]> ring = ring(weights);
+        Ring ring = new Ring(weights);
         for (int i = 0; i < 200; i++) {
             int client = i < 100 ? i - 50 : i * 1234567891;
-            check.due("HASH, owner(" + client + ")", x.owner(client), walk(ring, client, -1));
-            check.due("HASH, preview(" + client + ")", x.preview(client), walk(ring, client, -1));
+            check.due("HASH, owner(" + client + ")", x.owner(client), ring.walk(client, -1));
+            check.due("HASH, preview(" + client + ")", x.preview(client), ring.walk(client, -1));
         }
     }
 
@@ -150,10 +148,10 @@ public final class PoliciesTest {
         }
         x.setPolicy(LoadBalancer.HASH);
         x.setDraining(2, true);
-        List<long[]> ring = ring(weights);
+        Ring ring = new Ring(weights);
         for (int client = 0; client < 100; client++) {
-            check.due("HASH without 2, preview(" + client + ")", x.preview(client), walk(ring, client, 2));
-            check.due("HASH without 2, owner(" + client + ")", x.owner(client), walk(ring, client, -1));
+            check.due("HASH without 2, preview(" + client + ")", x.preview(client), ring.walk(client, 2));
+            check.due("HASH without 2, owner(" + client + ")", x.owner(client), ring.walk(client, -1));
         }
     }
 
@@ -174,34 +172,22 @@ public final class PoliciesTest {
         for (int weight : weights) {
             x.addServer(weight, 20);
         }
-        List<long[]> ring = ring(weights);
+        Ring ring = new Ring(weights);
         List<Integer> positions = new ArrayList<>(List.of(0, -1, Integer.MAX_VALUE, Integer.MIN_VALUE));
-        for (long[] point : ring) {
-            positions.add((int) point[0] - 1);
-            positions.add((int) point[0]);
-            positions.add((int) point[0] + 1);
+        for (int place = 0; place < ring.size(); place++) {
+            positions.add(ring.position(place) - 1);
+            positions.add(ring.position(place));
+            positions.add(ring.position(place) + 1);
         }
         for (int position : positions) {
-            int client = clientAt(position);
+            int client = Ring.clientAt(position);
             check.due("HASH, the client's position", Reference.position(client), position & 0xFFFFFFFFL);
-            check.due("HASH, owner at " + position, x.owner(client), walk(ring, client, -1));
+            check.due("HASH, owner at " + position, x.owner(client), ring.walk(client, -1));
         }
-    }
-
-    /** The client whose position is the given one: mix, backwards. */
-    private static int clientAt(int position) {
-        int inverse = BigInteger.valueOf(73244475).modInverse(BigInteger.ONE.shiftLeft(32)).intValue();
-        int x = position;
-        x ^= x >>> 16;
-        x *= inverse;
-        x ^= x >>> 16;
-        x *= inverse;
-        x ^= x >>> 16;
-        return x;
     }
 
     private static void hashInASlowStart() {
-        int[] weights = {10, 10};
+        Ring ring = new Ring(10, 10);
         LoadBalancer x = new LoadBalancer();
         x.addServer(10, 20);
         x.addServer(10, 20);
@@ -209,33 +195,8 @@ public final class PoliciesTest {
         x.setSlowStart(50);
         Scenes.recover(x, 0);
         for (int client = 0; client < 100; client++) {
-            check.due("HASH in a slow start, the points stay", x.preview(client), walk(ring(weights), client, -1));
+            check.due("HASH in a slow start, the points stay", x.preview(client), ring.walk(client, -1));
         }
-    }
-
-    private static List<long[]> ring(int[] weights) {
-        List<long[]> points = new ArrayList<>();
-        for (int s = 0; s < weights.length; s++) {
-            for (int k = 0; k < 4 * weights[s]; k++) {
-                points.add(new long[] {Reference.position(1000 * s + k), s, k});
-            }
-        }
-        points.sort(Comparator.<long[]>comparingLong(p -> p[0]).thenComparingLong(p -> p[1]).thenComparingLong(p -> p[2]));
-        return points;
-    }
-
-    private static int walk(List<long[]> ring, int client, int without) {
-        int start = 0;
-        while (start < ring.size() && ring.get(start)[0] < Reference.position(client)) {
-            start++;
-        }
-        for (int i = 0; i < ring.size(); i++) {
-            long[] point = ring.get((start + i) % ring.size());
-            if (point[1] != without) {
-                return (int) point[1];
-            }
-        }
-        return LoadBalancer.NONE;
     }
 
     private static void twoChoices() {

@@ -40,6 +40,23 @@ final class Scenes {
         return servers.toString();
     }
 
+    /** Opens connections of client 0 to this server alone; no server may be draining, and none is afterwards. */
+    static void load(LoadBalancer x, int server, int connections) {
+        drainAllBut(x, server, true);
+        for (int i = 0; i < connections; i++) {
+            x.open(0);
+        }
+        drainAllBut(x, server, false);
+    }
+
+    static void drainAllBut(LoadBalancer x, int server, boolean draining) {
+        for (int i = 0; i < x.servers(); i++) {
+            if (i != server) {
+                x.setDraining(i, draining);
+            }
+        }
+    }
+
     /** Makes a server unhealthy and healthy again, with the thresholds of a new object. */
     static void recover(LoadBalancer x, int server) {
         fail(x, server);
