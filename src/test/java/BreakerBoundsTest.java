@@ -15,6 +15,7 @@ public final class BreakerBoundsTest {
         endsBadly();
         noEffectWhileOpen();
         noEffectOfOthersWhileHalfOpen();
+        whileNotAvailable();
         fewerThanTheCapacity();
         healthyAndNotDraining();
         closedOrHalfOpen();
@@ -170,6 +171,15 @@ public final class BreakerBoundsTest {
         check.due("its own result does not count", y.breaker(0), LoadBalancer.CLOSED);
         Scenes.useOnce(y, true);
         check.due("the fourth result", y.breaker(0), LoadBalancer.OPEN);
+        LoadBalancer z = halfOpen();
+        Scenes.useOnce(z, true);
+        for (int i = 1; i <= 4; i++) {
+            Scenes.useOnce(z, true);
+            check.due("good result " + i + ", the bad ones from before are gone", z.breaker(0), LoadBalancer.CLOSED);
+        }
+        Scenes.useOnce(z, false);
+        Scenes.useOnce(z, false);
+        check.due("2 of 6", z.breaker(0), LoadBalancer.CLOSED);
     }
 
     private static void endsBadly() {
@@ -231,6 +241,36 @@ public final class BreakerBoundsTest {
         check.due("the one connection", x.breaker(0), LoadBalancer.CLOSED);
         Scenes.useOnce(x, true);
         check.due("the results did not count", x.breaker(0), LoadBalancer.CLOSED);
+    }
+
+    /** Neither draining nor the health has a part in the breaker. */
+    private static void whileNotAvailable() {
+        check.sentence("When a connection of a server ends while its breaker is CLOSED, its result is added");
+        LoadBalancer x = Scenes.withServers(1);
+        for (int i = 0; i < 4; i++) {
+            x.open(0);
+        }
+        x.close(0, false);
+        x.setDraining(0, true);
+        x.close(1, false);
+        Scenes.fail(x, 0);
+        x.close(2, false);
+        check.due("3 results", x.breaker(0), LoadBalancer.CLOSED);
+        x.setDraining(0, false);
+        x.close(3, true);
+        check.due("4 results, of a draining and of an unhealthy server, too", x.breaker(0), LoadBalancer.OPEN);
+        x.setDraining(0, true);
+        x.tick(4);
+        check.due("4 ticks", x.breaker(0), LoadBalancer.OPEN);
+        x.tick(1);
+        check.due("5 ticks, draining and unhealthy", x.breaker(0), LoadBalancer.HALF_OPEN);
+        x.report(0, true);
+        x.report(0, true);
+        x.setDraining(0, false);
+        check.due("HALF_OPEN stays when it is healthy by checks", x.breaker(0), LoadBalancer.HALF_OPEN);
+        Scenes.useOnce(x, false);
+        Scenes.recover(x, 0);
+        check.due("so does OPEN", x.breaker(0), LoadBalancer.OPEN);
     }
 
     private static void fewerThanTheCapacity() {

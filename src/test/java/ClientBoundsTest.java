@@ -213,6 +213,22 @@ public final class ClientBoundsTest {
         visit(x, 500);
         check.due("a forgotten one is a further one", remembered(x, 499, 498, 497, 496), "+--+");
         check.due("count(4)", x.count(4), 40);
+        oneAfterTheOther();
+    }
+
+    /** Every one of the 40 has its turn; those at server 9 can't be told from the others. */
+    private static void oneAfterTheOther() {
+        LoadBalancer x = withClients(1, numbers(500, -1, 40));
+        emptyServer9(x);
+        for (int i = 0; i < 39; i++) {
+            int client = 500 - i;
+            visit(x, 1000 - i);
+            if (i % 10 < 8) {
+                check.due("clients " + client + " and " + (client - 1), remembered(x, client, client - 1), "-+");
+            }
+        }
+        visit(x, 2000);
+        check.due("count(4)", x.count(4), 40);
     }
 
     private static void smallestOfSeveral() {
@@ -250,11 +266,12 @@ public final class ClientBoundsTest {
 
     private static void aKnownClientIsNoFurtherOne() {
         check.sentence("if a connection of a further one is opened");
-        int[] clients = numbers(0, 1, 40);
-        LoadBalancer x = withClients(0, clients);
+        LoadBalancer x = withClients(0, numbers(0, 1, 40));
         x.tick(1);
-        for (int client : clients) {
+        // From the youngest to the oldest, so that none of them stands where the oldest stands.
+        for (int client : numbers(39, -1, 40)) {
             x.open(client);
+            check.due("count(4)", x.count(4), 40);
         }
         x.setPolicy(LoadBalancer.ROUND_ROBIN);
         for (int i = 0; i < 40; i++) {

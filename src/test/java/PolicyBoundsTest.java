@@ -8,6 +8,7 @@ public final class PolicyBoundsTest {
         Integer.MIN_VALUE, Integer.MIN_VALUE + 1, Integer.MAX_VALUE, Integer.MAX_VALUE - 1};
 
     public static void main(String[] args) {
+        intsOverflow();
         anyInt();
         roundRobinGoesOn();
         roundRobinGoesRound();
@@ -41,6 +42,32 @@ public final class PolicyBoundsTest {
         }
         x.setPolicy(policy);
         return x;
+    }
+
+    private static void intsOverflow() {
+        check.sentence("int arithmetic may overflow where a formula for hashes or random numbers is given.");
+        LoadBalancer x = withWeights(LoadBalancer.HASH, 4, 3, 5);
+        Ring ring = new Ring(4, 3, 5);
+        for (int client : SEEDS) {
+            check.due("the position of " + client, Reference.position(client), longMix(client));
+            check.due("owner(" + client + ")", x.owner(client), ring.walk(client, -1));
+        }
+        x.setPolicy(LoadBalancer.TWO_CHOICES);
+        for (int seed : SEEDS) {
+            x.setSeed(seed);
+            Scenes.useOnce(x, true);
+            check.due("two draws from " + seed, x.setSeed(0), (int) drawn(drawn(seed)));
+        }
+    }
+
+    /** mix without overflow: with longs that are cut to 32 bits. */
+    private static long longMix(int number) {
+        long x = number & 0xFFFFFFFFL;
+        for (int i = 0; i < 2; i++) {
+            x ^= x >> 16;
+            x = x * 73244475L & 0xFFFFFFFFL;
+        }
+        return x ^ x >> 16;
     }
 
     private static void anyInt() {
@@ -112,6 +139,14 @@ public final class PolicyBoundsTest {
         x.addServer(3, 20);
         // Credits 3 3: the new server has nothing before it was available.
         check.due("a server that is added later", Scenes.placeMany(x, 2), "01");
+        LoadBalancer again = withWeights(LoadBalancer.WEIGHTED, 1);
+        again.save(0);
+        again.addServer(1, 20);
+        // 1 1 -> -1 1: the credit of server 1 goes with it.
+        again.open(0);
+        again.restore(0);
+        again.addServer(1, 20);
+        check.due("a server in the place of one that a restore took away", Scenes.placeMany(again, 2), "01");
     }
 
     private static void onlyAvailableGetCredit() {
@@ -233,6 +268,14 @@ public final class PolicyBoundsTest {
         Ring ring = new Ring(3, 10);
         check.due("no point 12 with weight 3", withWeights(3, 3, 10).owner(12), ring.walk(12, -1));
         check.due("no point -1", withWeights(3, 3, 10).owner(-1), ring.walk(-1, -1));
+        LoadBalancer slow = withWeights(LoadBalancer.HASH, 10, 10);
+        slow.setSlowStart(50);
+        Scenes.recover(slow, 0);
+        check.due("an effective weight of 1", slow.effectiveWeight(0), 1);
+        for (int k = 0; k < 40; k++) {
+            check.due("the points are those of the weight, preview(" + k + ")", slow.preview(k), 0);
+            check.due("the points are those of the weight, owner(" + k + ")", slow.owner(k), 0);
+        }
     }
 
     private static void pointsOfTheTenthServer() {
@@ -291,19 +334,25 @@ public final class PolicyBoundsTest {
 
     private static void fromTheLastPointToTheFirst() {
         check.sentence("and going on in ascending order and from the last point to the first one");
+        int behindServer1 = 0;
         for (int weight = 1; weight <= 10; weight++) {
-            LoadBalancer x = withWeights(LoadBalancer.HASH, weight, 2, 1);
-            Ring ring = new Ring(weight, 2, 1);
+            int[] weights = {1, 2, weight};
+            LoadBalancer x = withWeights(LoadBalancer.HASH, weights);
+            Ring ring = new Ring(weights);
             int last = ring.position(ring.size() - 1);
             check.due("at the last point", x.owner(Ring.clientAt(last)), ring.server(ring.size() - 1));
             check.due("behind the last point", x.owner(Ring.clientAt(last + 1)), ring.server(0));
             check.due("at the greatest position", x.owner(Ring.clientAt(-1)), ring.server(0));
             check.due("at the position 0", x.owner(Ring.clientAt(0)), ring.server(0));
-            int lastServer = ring.server(ring.size() - 1);
-            x.setDraining(lastServer, true);
-            check.due("round the end to an available one", x.preview(Ring.clientAt(last)),
-                ring.walk(Ring.clientAt(last), lastServer));
+            // mix(0) is 0, so that the first point is always one of server 0: without it another one is the first.
+            x.setDraining(0, true);
+            for (int position : new int[] {last, last + 1, -1}) {
+                int client = Ring.clientAt(position);
+                check.due("round the end without server 0", x.preview(client), ring.walk(client, 0));
+            }
+            behindServer1 += ring.walk(Ring.clientAt(-1), 0) == 1 ? 0 : 1;
         }
+        check.due("rings where server 2 comes before server 1", behindServer1 > 0, true);
     }
 
     private static void firstPointOfAnAvailableServer() {
@@ -368,6 +417,25 @@ public final class PolicyBoundsTest {
             check.due("one fewer at j", loaded(seed, 3, i, 3, j, 2), i == j ? i : j);
             check.due("one more at j", loaded(seed, 3, i, 2, j, 3), i);
             check.due("none at j", loaded(seed, 3, i, 1, j, 0), i == j ? i : j);
+        }
+        unlikeServers();
+    }
+
+    /** Neither the weights nor the capacities count. */
+    private static void unlikeServers() {
+        for (int seed : SEEDS) {
+            LoadBalancer x = new LoadBalancer();
+            x.addServer(1, 20);
+            x.addServer(10, 3);
+            Scenes.load(x, 0, 3);
+            Scenes.load(x, 1, 2);
+            x.setPolicy(LoadBalancer.TWO_CHOICES);
+            x.setSeed(seed);
+            int i = index(drawn(seed), 2);
+            int j = index(drawn(drawn(seed)), 2);
+            check.due("3 of 20 and 2 of 3", x.preview(0), i == 0 && j == 0 ? 0 : 1);
+            x.setDraining(1, true);
+            check.due("the one that is available", x.preview(0), 0);
         }
     }
 

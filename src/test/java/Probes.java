@@ -1,7 +1,7 @@
 /**
  * Runs of calls that bring to light what a balancer keeps, also what no query tells at once: counts of checks, results,
  * credits, the last server, remembered clients and their times. Two balancers that are alike answer each probe alike. A
- * probe changes the balancer, so each one needs a balancer of its own; together with its making it stays below 512 calls.
+ * probe changes the balancer, so each one needs a balancer of its own.
  */
 final class Probes {
     static final int COUNT = 10;
@@ -9,9 +9,15 @@ final class Probes {
     private Probes() {
     }
 
-    /** A balancer with something in every place: ten servers, 40 clients, breakers of every kind, a rejection. */
+    /** A balancer with something in every place. */
     static LoadBalancer busy(int policy) {
         LoadBalancer x = new LoadBalancer();
+        makeBusy(x, policy);
+        return x;
+    }
+
+    /** Gives a new balancer ten servers, 40 clients, breakers of every kind and a rejection. */
+    static void makeBusy(LoadBalancer x, int policy) {
         opens(x, 0);
         int[] weights = {5, 1, 10, 3, 2, 7, 1, 4, 6, 8};
         int[] capacities = {4, 20, 3, 20, 5, 6, 1, 20, 2, 9};
@@ -28,7 +34,6 @@ final class Probes {
         x.setDraining(9, true);
         x.setPolicy(policy);
         fillWithClients(x);
-        return x;
     }
 
     /** Client i sticks to server i from here on, so that its connections can be used for this server's breaker. */
@@ -83,25 +88,43 @@ final class Probes {
         }
     }
 
-    /** Changes whatever can be changed. */
-    static void ruin(LoadBalancer x) {
+    /**
+     * Gives a new balancer something else in every place where busy() has something: ten other servers, all
+     * recovered, draining and in use and some tripped, other clients, and other connections under the same numbers.
+     */
+    static void makeOtherwiseBusy(LoadBalancer x) {
+        x.tick(100);
+        for (int i = 0; i < 10; i++) {
+            x.addServer(10 - i, 18);
+        }
         x.setThresholds(1, 1);
-        x.setSlowStart(3);
+        x.setSlowStart(50);
         x.setCool(1);
-        x.setSticky(0);
         x.setSticky(100);
-        x.setPolicy((x.setPolicy(0) + 1) % 5);
         x.setSeed(-5);
-        for (int server = 0; server < x.servers(); server++) {
-            x.setDraining(server, !x.setDraining(server, false));
-            x.setWeight(server, 11 - x.setWeight(server, 1));
-            x.report(server, server % 2 == 0);
+        x.setPolicy(LoadBalancer.WEIGHTED);
+        for (int i = 0; i < 70; i++) {
+            x.open(132 - i);
         }
-        x.tick(9);
-        for (int i = 0; i < 20; i++) {
-            opens(x, i);
-            closes(x, 3 * i, i % 2 == 0);
+        for (int server = 0; server < 10; server++) {
+            x.report(server, false);
+            x.report(server, true);
+            x.setDraining(server, true);
         }
+        x.setThresholds(9, 9);
+        for (int i = 0; i < 24; i++) {
+            x.close(i, false);
+        }
+        for (int server = 0; server < 10; server++) {
+            x.report(server, false);
+        }
+        opens(x, 500);
+        opens(x, 501);
+        // Servers 0 to 2 become HALF_OPEN, and server 1 accepts its connection.
+        x.tick(1);
+        x.setDraining(1, false);
+        opens(x, 502);
+        x.setDraining(1, true);
     }
 
     static String run(int probe, LoadBalancer x) {

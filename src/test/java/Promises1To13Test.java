@@ -11,6 +11,7 @@ public final class Promises1To13Test {
         addServerRanges();
         addServerFull();
         addServerReturns();
+        addServerBeginsAnew();
         setWeightKeeps();
         setWeightMovesPoints();
         setWeightReturns();
@@ -109,6 +110,22 @@ public final class Promises1To13Test {
         }
     }
 
+    /** Where a restore took servers away, the new ones have nothing of them. */
+    private static void addServerBeginsAnew() {
+        check.sentence("Adds a server.");
+        for (int policy = 0; policy <= 4; policy++) {
+            for (int probe = 0; probe < Probes.COUNT; probe++) {
+                LoadBalancer x = new LoadBalancer();
+                x.save(0);
+                Probes.makeOtherwiseBusy(x);
+                x.restore(0);
+                Probes.makeBusy(x, policy);
+                check.due("policy " + policy + ", probe " + probe, Probes.run(probe, x),
+                    Probes.run(probe, Probes.busy(policy)));
+            }
+        }
+    }
+
     private static void setWeightKeeps() {
         check.sentence("Its active connections, credit and breaker stay");
         LoadBalancer x = Scenes.withServers(2);
@@ -137,6 +154,11 @@ public final class Promises1To13Test {
         check.due("HALF_OPEN with its connection stays", y.isAvailable(0), false);
         y.close(trial, true);
         check.due("its end counts", y.breaker(0), LoadBalancer.CLOSED);
+        y.setSlowStart(10);
+        Scenes.recover(y, 0);
+        y.tick(4);
+        y.setWeight(0, 10);
+        check.due("the slow start stays, 10 * 5 / 10", y.effectiveWeight(0), 5);
     }
 
     private static void setWeightMovesPoints() {
@@ -170,6 +192,7 @@ public final class Promises1To13Test {
         x.setWeight(1, 7);
         refused("setWeight(1, ?)", w -> x.setWeight(1, w), LOW, -1, 0, 11, HIGH);
         check.due("the weight stays", x.effectiveWeight(1), 7);
+        check.sentence("Throws `IndexOutOfBoundsException` if there is no such server");
         noSuch("setWeight(?, 1)", s -> x.setWeight(s, 1), LOW, -1, 2, 9, 10, HIGH);
         noSuch("setWeight(?, 0)", s -> x.setWeight(s, 0), LOW, -1, 2, HIGH);
         noSuch("setWeight(?, 11)", s -> x.setWeight(s, 11), LOW, -1, 2, HIGH);
@@ -191,6 +214,22 @@ public final class Promises1To13Test {
         check.due("close", x.close(0, true), 2);
         x.setDraining(0, false);
         check.due("active(0)", x.active(0), 1);
+        drainingAndBack();
+    }
+
+    /** A draining that ends at once leaves nothing behind. */
+    private static void drainingAndBack() {
+        for (int policy = 0; policy <= 4; policy++) {
+            for (int probe = 0; probe < Probes.COUNT; probe++) {
+                LoadBalancer x = Probes.busy(policy);
+                for (int server = 0; server < 9; server++) {
+                    x.setDraining(server, true);
+                    x.setDraining(server, false);
+                }
+                check.due("policy " + policy + ", probe " + probe, Probes.run(probe, x),
+                    Probes.run(probe, Probes.busy(policy)));
+            }
+        }
     }
 
     private static void setDrainingReturns() {
@@ -205,7 +244,7 @@ public final class Promises1To13Test {
     }
 
     private static void setDrainingWrong() {
-        check.sentence("Promise 4: setDraining");
+        check.sentence("Throws `IndexOutOfBoundsException` if there is no such server");
         noSuchServer("setDraining(?, true)", (x, s) -> x.setDraining(s, true));
         noSuchServer("setDraining(?, false)", (x, s) -> x.setDraining(s, false));
     }
@@ -240,7 +279,7 @@ public final class Promises1To13Test {
     }
 
     private static void reportWrong() {
-        check.sentence("Promise 5: report");
+        check.sentence("Throws `IndexOutOfBoundsException` if there is no such server");
         noSuchServer("report(?, true)", (x, s) -> x.report(s, true));
         noSuchServer("report(?, false)", (x, s) -> x.report(s, false));
     }
@@ -459,6 +498,10 @@ public final class Promises1To13Test {
         x.setPolicy(1);
         x.setDraining(0, false);
         check.due("also of servers that are not available", x.preview(0), 0);
+        x.addServer(1, 20);
+        x.setWeight(3, 2);
+        // 1 1 2 without server 1: had the others more than nothing, server 0 would be as good.
+        check.due("0 as that of a new server", x.preview(0), 3);
         x.setSeed(-77);
         for (int policy = 0; policy <= 4; policy++) {
             x.setPolicy(policy);

@@ -12,11 +12,14 @@ public final class RefusedCallsTest {
 
     private final String scene;
     private final Supplier<LoadBalancer> maker;
+    /** What is done before the probes: where no server is available, they could see little. */
+    private final Consumer<LoadBalancer> reviver;
     private final String[] due = new String[Probes.COUNT + 1];
 
-    private RefusedCallsTest(String scene, Supplier<LoadBalancer> maker) {
+    private RefusedCallsTest(String scene, Supplier<LoadBalancer> maker, Consumer<LoadBalancer> reviver) {
         this.scene = scene;
         this.maker = maker;
+        this.reviver = reviver;
         for (int probe = 0; probe < due.length; probe++) {
             due[probe] = probed(probe, maker.get());
         }
@@ -26,25 +29,47 @@ public final class RefusedCallsTest {
         firstThatApplies();
         check.sentence("A call that throws an exception changes nothing, except that open() counts a rejection.");
         for (int policy = 0; policy <= 4; policy++) {
-            int chosen = policy;
-            new RefusedCallsTest("policy " + policy, () -> savedIn0(chosen)).busyBalancer();
-            new RefusedCallsTest("policy " + policy + ", draining", () -> allDraining(chosen)).openRefused();
-            new RefusedCallsTest("policy " + policy + ", unhealthy", () -> allUnhealthy(chosen)).openRefused();
-            new RefusedCallsTest("policy " + policy + ", full", () -> full(chosen)).openRefused();
-            new RefusedCallsTest("policy " + policy + ", OPEN", () -> tripped(chosen, 0)).openRefused();
-            new RefusedCallsTest("policy " + policy + ", HALF_OPEN", () -> tripped(chosen, 5)).openRefused();
-            new RefusedCallsTest("policy " + policy + ", 1000 opened", () -> used(chosen)).openRefused();
+            withPolicy(policy);
         }
-        new RefusedCallsTest("a new object", LoadBalancer::new).newObject();
+        new RefusedCallsTest("a new object", LoadBalancer::new, x -> { }).newObject();
         check.end();
     }
 
-    /** Slot 0 is saved and slot 1 is not; what was saved differs from what is. */
+    private static void withPolicy(int policy) {
+        String name = "policy " + policy;
+        new RefusedCallsTest(name, () -> savedIn0(policy), x -> { }).busyBalancer();
+        new RefusedCallsTest(name + ", draining", () -> allDraining(policy), RefusedCallsTest::endDraining).openRefused();
+        new RefusedCallsTest(name + ", unhealthy", () -> allUnhealthy(policy), RefusedCallsTest::heal).openRefused();
+        new RefusedCallsTest(name + ", full", () -> full(policy), x -> endLatest(x, 3)).openRefused();
+        new RefusedCallsTest(name + ", OPEN", () -> tripped(policy, 0), x -> x.tick(5)).openRefused();
+        new RefusedCallsTest(name + ", HALF_OPEN", () -> tripped(policy, 5), x -> endLatest(x, 2)).openRefused();
+        new RefusedCallsTest(name + ", 1000 opened", () -> used(policy), x -> { }).openRefused();
+    }
+
+    private static void endDraining(LoadBalancer x) {
+        Scenes.drainAllBut(x, LoadBalancer.NONE, false);
+    }
+
+    private static void heal(LoadBalancer x) {
+        x.setThresholds(1, 4);
+        for (int server = 0; server < 8; server++) {
+            x.report(server, true);
+        }
+    }
+
+    private static void endLatest(LoadBalancer x, int connections) {
+        int opened = x.count(2);
+        for (int i = 1; i <= connections; i++) {
+            x.close(opened - i, true);
+        }
+    }
+
+    /** Slot 0 is saved and slot 1 is not; what was saved differs from what is. A breaker waits for the next tick. */
     private static LoadBalancer savedIn0(int policy) {
         LoadBalancer x = Probes.busy(policy);
         x.save(0);
-        x.tick(1);
         x.open(300);
+        x.setCool(3);
         return x;
     }
 
@@ -104,7 +129,8 @@ public final class RefusedCallsTest {
         return x;
     }
 
-    private static String probed(int probe, LoadBalancer x) {
+    private String probed(int probe, LoadBalancer x) {
+        reviver.accept(x);
         if (probe < Probes.COUNT) {
             return Probes.run(probe, x);
         }

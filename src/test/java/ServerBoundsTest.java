@@ -259,6 +259,10 @@ public final class ServerBoundsTest {
         check.due("at the second time", x.effectiveWeight(0), 1);
         x.tick(9);
         check.due("9 ticks after the second time", x.effectiveWeight(0), 10);
+        x.setSlowStart(20);
+        Scenes.fail(x, 0);
+        check.due("unhealthy again, 9 ticks after the second time", x.effectiveWeight(0), 5);
+        x.setSlowStart(10);
         x.tick(200);
         check.due("long after it", x.effectiveWeight(0), 10);
         Scenes.recover(x, 0);
